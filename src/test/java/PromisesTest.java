@@ -36,6 +36,7 @@ final class PromisesTest {
         promise15ClearBuffer();
         promise16FirstError();
         promise17Take();
+        promise17TakeOfFullBuffer();
         promise17TakeStops();
         promise18Keep();
         promise19GoBack();
@@ -176,11 +177,20 @@ final class PromisesTest {
         Check.due("solutions() within a kind", grid("A=B").solutions(), 0);
         Check.about("promise 3");
         Check.due("left of E", grid("A@1;A#E").left(4), 13);
+        Check.due("left of A, with two places for E", grid("xE0;xE1;A#E").left(0), 15);
+        Check.due("hint(), with no place for E", grid("xE0;xE1;xE2;xE3;A#E").hint(), 0);
+        Check.due("hint(), with E at 3", grid("E@3;A#E").hint(), 16);
+        Check.due("hint(), with only 3 for E", grid("xE0;xE1;xE2;A#E").hint(), 3);
         Check.due("solutions()", grid("A#E").solutions(), 10368);
         Check.due("solutions() within a kind", grid("A#B").solutions(), 13824);
         Check.about("promise 4");
         Check.due("left of E", grid("A@1;A<E").left(4), 12);
         Check.due("left of E, the other way", grid("A@1;E<A").left(4), 1);
+        Check.due("left of E, near or far", grid("A@0;A<E").left(4), 14);
+        Check.due("left of A, near or far", grid("E@3;A<E").left(0), 7);
+        Check.due("left of A, two lesser", grid("E@2;A<E").left(0), 3);
+        Check.due("left of E, none lesser", grid("A@0;E<A").isContradiction(), true);
+        Check.due("left of both", grid("A<E").left(0) * 100 + grid("A<E").left(4), 714);
         Check.due("solutions(), 6 of 16 places", grid("A<E").solutions(), 5184);
         Check.due("solutions() within a kind", grid("A<B").solutions(), 6912);
         Check.about("promise 5");
@@ -446,6 +456,33 @@ final class PromisesTest {
         Check.due("crosses()", grid.crosses(), 0);
         Check.due("made()", grid.made(), 0);
         Check.due("the buffer stays cleared", grid.clearBuffer(), 0);
+    }
+
+    private static final String ELEVEN = "A#E;A#E;A#E;A#E;A#E;A#E;A#E;A#E;A#E;A#E;A#E;";
+
+    /** Texts that fill the buffer to its last character. */
+    private static void promise17TakeOfFullBuffer() {
+        for (String wrong : new String[] {"A|EF;A|EF;A|EF;" + ELEVEN + "A", "A|EF;A|EF;A|EF;" + ELEVEN + "x",
+            "A|EF;A|EF;" + ELEVEN + "A#E;A=", "A|EF;A|EF;" + ELEVEN + "A#E;A|", "A|EF;" + ELEVEN + "A#E;A#E;A|B",
+            ELEVEN + "A#E;A#E;A#E;A#E;"}) {
+            ClueGrid grid = new ClueGrid();
+            write(grid, wrong);
+            Check.due("firstError() of 60", grid.firstError(), 60);
+            Check.badArgument(grid, "take() of 60", grid::take);
+            Check.due("clearBuffer()", grid.clearBuffer(), 60);
+        }
+        ClueGrid grid = new ClueGrid();
+        write(grid, "xA0;A|EF;" + ELEVEN + "xA1;xA2");
+        Check.due("take() of 60", grid.take(), 15);
+        Check.due("crosses()", grid.crosses(), 3);
+        write(grid, "xB0;xB1;xB2;xB3;xC0;xC1;xC2;xC3;xD0;xD1;xD2;xD3;xE0;xE1;A|EF");
+        Check.due("take() of 60, but for the last part", grid.take(), 14);
+        Check.due("clues()", grid.clues(), 12);
+        Check.due("undo()", grid.undo(), 1);
+        grid.withdraw(0);
+        write(grid, "xB0;xB1;xB2;xB3;xC0;xC1;xC2;xC3;xD0;xD1;xD2;xD3;xE0;xE1;A|FL");
+        Check.due("take() of 60", grid.take(), 15);
+        Check.due("the last clue", clueTold(grid, 11), "6:0,5,11@-1");
     }
 
     private static void promise17TakeStops() {
@@ -722,6 +759,11 @@ final class PromisesTest {
         Check.due("hintBy() of need", grid("xB1;xC1;xD1").hintBy(), 13);
         Check.due("hintBy() of a clue ahead of another item", grid("xA0;xA1;xA2;B!3").hintBy(), 0);
         Check.due("hintBy() of another item ahead of need", grid("xA0;xA1;xA2;xC1;xD1").hintBy(), 13);
+        ClueGrid full = grid("A#E;A#E;A#E;A#E;A#E;A#E", "A#E;A#E;A#E;A#E;A#E;B#F", "xL0;xL1;xL2");
+        Check.due("hintBy() of none of 12 clues", full.hintBy(), 12);
+        ClueGrid gone = grid("B!3", "xA0;xA1;xA2");
+        gone.withdraw(0);
+        Check.due("hintBy() when its clue is withdrawn", gone.hintBy(), 12);
         ClueGrid both = grid("xA0;xA1;xA2;xC0;xD0;xB1;xB2");
         Check.due("hint() ruled out in two ways", both.hint(), 7);
         Check.due("hintBy() ruled out in two ways", both.hintBy(), 12);
@@ -839,6 +881,9 @@ final class PromisesTest {
         Check.due("culprit(), as two are to blame", grid("A=B;C=D").culprit(), NONE);
         Check.due("culprit(), as the crosses are to blame", grid("xA0;xA1;xA2;xA3;B@0").culprit(), NONE);
         Check.due("culprit(), with crosses", grid("B@1;A@0;xA0").culprit(), 1);
+        Check.due("culprit(), the first one", grid("B=C;A@0;D@1").culprit(), 0);
+        Check.due("culprit(), with one solution", grid("A<B;B<C;C<D;E<F;F<G;G<H;I<J;J<K;K<L").culprit(), NONE);
+        Check.due("culprit(), but for which there is one", grid("A<B;B<C;C<D;E<F;F<G;G<H;I<J;J<K;K<L;A=L").culprit(), 0);
         ClueGrid last = grid("A#E;A#E;A#E;A#E;A#E;A#E;A#E", "A#E;A#E;A#E;A#E;I=J");
         Check.due("culprit(), the last of 12", last.culprit(), 11);
     }
