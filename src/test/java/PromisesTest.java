@@ -78,27 +78,6 @@ final class PromisesTest {
         }
     }
 
-    private static String leftOfAll(ClueGrid grid) {
-        StringBuilder masks = new StringBuilder();
-        for (int item = 0; item < 12; item++) {
-            masks.append(Integer.toHexString(grid.left(item)));
-        }
-        return masks.toString();
-    }
-
-    private static String trulyLeftOfAll(ClueGrid grid) {
-        StringBuilder masks = new StringBuilder();
-        for (int item = 0; item < 12; item++) {
-            masks.append(Integer.toHexString(grid.trulyLeft(item)));
-        }
-        return masks.toString();
-    }
-
-    private static String clueTold(ClueGrid grid, int clue) {
-        return grid.sortOf(clue) + ":" + grid.itemOf(clue, 0) + "," + grid.itemOf(clue, 1) + ","
-                + grid.itemOf(clue, 2) + "@" + grid.placeOf(clue);
-    }
-
     private static int savedStates(ClueGrid grid) {
         int count = 0;
         while (Check.outcome(grid::undo).charAt(0) != 't') {
@@ -133,7 +112,7 @@ final class PromisesTest {
         Check.due("firstError()", grid.firstError(), 0);
         Check.due("clearBuffer()", grid.clearBuffer(), 0);
         Check.due("solutions()", grid.solutions(), 13824);
-        Check.due("left of all", leftOfAll(grid), "ffffffffffff");
+        Check.due("left of all", Told.left(grid), "ffffffffffff");
         Check.badState(grid, "undo()", grid::undo);
         Check.badState(grid, "goBack()", grid::goBack);
         Check.badArgument(grid, "take()", grid::take);
@@ -154,9 +133,9 @@ final class PromisesTest {
         Check.badArgument(grid, name + " of 11 twice", () -> call.add(grid, 11, 11));
         isUndoable(name, grid, () -> call.add(grid, 3, 9));
         Check.due(name + "(0, 11)", call.add(grid, 0, 11), 0);
-        Check.due("the clue", clueTold(grid, 0), sort + ":0,11,-1@-1");
+        Check.due("the clue", Told.clue(grid, 0), sort + ":0,11,-1@-1");
         Check.due(name + "(11, 0)", call.add(grid, 11, 0), 1);
-        Check.due("the clue", clueTold(grid, 1), sort + ":11,0,-1@-1");
+        Check.due("the clue", Told.clue(grid, 1), sort + ":11,0,-1@-1");
         Check.due(name + " of one kind", call.add(grid, 5, 6), 2);
         for (int i = 3; i < 12; i++) {
             Check.due(name + " once more", call.add(grid, 5, 6), i);
@@ -212,11 +191,11 @@ final class PromisesTest {
         }
         isUndoable(name, grid, () -> call.add(grid, 3, 3));
         Check.due(name + "(0, 3)", call.add(grid, 0, 3), 0);
-        Check.due("the clue", clueTold(grid, 0), sort + ":0,-1,-1@3");
+        Check.due("the clue", Told.clue(grid, 0), sort + ":0,-1,-1@3");
         Check.due("left of A", grid.left(0), sort == 4 ? 8 : 7);
         Check.due("solutions()", grid.solutions(), sort == 4 ? 3456 : 10368);
         Check.due(name + "(11, 0)", call.add(grid, 11, 0), 1);
-        Check.due("the clue", clueTold(grid, 1), sort + ":11,-1,-1@0");
+        Check.due("the clue", Told.clue(grid, 1), sort + ":11,-1,-1@0");
         for (int i = 2; i < 12; i++) {
             Check.due(name + "(0, 0), also against the first", call.add(grid, 0, 0), i);
         }
@@ -240,7 +219,7 @@ final class PromisesTest {
         Check.badArgument(grid, "either(1, 1, 1)", () -> grid.either(1, 1, 1));
         isUndoable("either", grid, () -> grid.either(0, 4, 8));
         Check.due("either(0, 11, 5)", grid.either(0, 11, 5), 0);
-        Check.due("the clue", clueTold(grid, 0), "6:0,11,5@-1");
+        Check.due("the clue", Told.clue(grid, 0), "6:0,11,5@-1");
         for (int i = 1; i < 12; i++) {
             Check.due("either(0, 4, 5)", grid.either(0, 4, 5), i);
         }
@@ -262,18 +241,18 @@ final class PromisesTest {
         }
         isUndoable("withdraw(0)", grid, () -> grid.withdraw(0));
         Check.due("withdraw(1)", grid.withdraw(1), 3);
-        Check.due("the first clue", clueTold(grid, 0), "0:0,4,-1@-1");
-        Check.due("the next clue", clueTold(grid, 1), "2:2,6,-1@-1");
-        Check.due("the last clue", clueTold(grid, 2), "4:3,-1,-1@2");
+        Check.due("the first clue", Told.clue(grid, 0), "0:0,4,-1@-1");
+        Check.due("the next clue", Told.clue(grid, 1), "2:2,6,-1@-1");
+        Check.due("the last clue", Told.clue(grid, 2), "4:3,-1,-1@2");
         Check.due("withdraw(2), the last", grid.withdraw(2), 2);
         Check.due("withdraw(0)", grid.withdraw(0), 1);
-        Check.due("the clue that is left", clueTold(grid, 0), "2:2,6,-1@-1");
+        Check.due("the clue that is left", Told.clue(grid, 0), "2:2,6,-1@-1");
         Check.due("withdraw(0)", grid.withdraw(0), 0);
         Check.outOfBounds(grid, "withdraw(0) of none", () -> grid.withdraw(0));
         Check.due("solutions()", grid.solutions(), 13824);
         ClueGrid full = grid("A#E;A#E;A#E;A#E;A#E;A#E", "A#E;A#E;A#E;A#E;A#E;B#F");
         Check.due("withdraw(0) of 12", full.withdraw(0), 11);
-        Check.due("the last clue", clueTold(full, 10), "1:1,5,-1@-1");
+        Check.due("the last clue", Told.clue(full, 10), "1:1,5,-1@-1");
         Check.due("a clue has room again", full.same(0, 4), 11);
     }
 
@@ -401,7 +380,7 @@ final class PromisesTest {
         Check.badState(grid, "undo(), as clearBuffer is not undoable", grid::undo);
         write(grid, "B<C");
         Check.due("take() of what came later", grid.take(), 1);
-        Check.due("the clue", clueTold(grid, 0), "2:1,2,-1@-1");
+        Check.due("the clue", Told.clue(grid, 0), "2:1,2,-1@-1");
     }
 
     private static void errorAt(String text, int due) {
@@ -445,7 +424,7 @@ final class PromisesTest {
         String[] due = {"0:0,1,-1@-1", "1:2,3,-1@-1", "2:4,5,-1@-1", "3:6,7,-1@-1", "4:8,-1,-1@1", "5:9,-1,-1@2", "6:10,11,0@-1"};
         Check.due("clues()", grid.clues(), due.length);
         for (int i = 0; i < due.length; i++) {
-            Check.due("the clue " + i, clueTold(grid, i), due[i]);
+            Check.due("the clue " + i, Told.clue(grid, i), due[i]);
         }
         Check.due("isCrossed(1, 3)", grid.isCrossed(1, 3), true);
         Check.due("crosses()", grid.crosses(), 1);
@@ -482,7 +461,7 @@ final class PromisesTest {
         grid.withdraw(0);
         write(grid, "xB0;xB1;xB2;xB3;xC0;xC1;xC2;xC3;xD0;xD1;xD2;xD3;xE0;xE1;A|FL");
         Check.due("take() of 60", grid.take(), 15);
-        Check.due("the last clue", clueTold(grid, 11), "6:0,5,11@-1");
+        Check.due("the last clue", Told.clue(grid, 11), "6:0,5,11@-1");
     }
 
     private static void promise17TakeStops() {
@@ -527,7 +506,7 @@ final class PromisesTest {
         grid.withdraw(0);
         grid.rubAllOut();
         Check.due("goBack()", grid.goBack(), 1);
-        Check.due("the clue", clueTold(grid, 0), "0:1,5,-1@-1");
+        Check.due("the clue", Told.clue(grid, 0), "0:1,5,-1@-1");
         Check.due("isCrossed(0, 0)", grid.isCrossed(0, 0), true);
         Check.due("made()", grid.made(), 1);
         Check.due("crossesByAccount()", grid.crossesByAccount(), 1);
@@ -559,7 +538,7 @@ final class PromisesTest {
         grid.withdraw(1);
         grid.withdraw(0);
         Check.due("goBack() has its own copy", grid.goBack(), 1);
-        Check.due("the clue", clueTold(grid, 0), "0:0,4,-1@-1");
+        Check.due("the clue", Told.clue(grid, 0), "0:0,4,-1@-1");
     }
 
     private static void promise20Undo() {
@@ -653,17 +632,17 @@ final class PromisesTest {
 
     private static void promise29Left() {
         Check.about("promise 29");
-        Check.due("left of all", leftOfAll(grid("xA0;xE1;xL3")), "efffdffffff7");
-        Check.due("left, with A at 0", leftOfAll(grid("A@0")), "1eeeffffffff");
-        Check.due("left, with A alone at 0", leftOfAll(grid("xB0;xC0;xD0")), "1eeeffffffff");
-        Check.due("left, in a row", leftOfAll(grid("A<E;E<I")), "3fff6fffcfff");
-        Check.due("left, a row of a kind", leftOfAll(grid("A<B;B<C;C<D")), "1248ffffffff");
-        Check.due("left, far from its place", leftOfAll(grid("A=E;E=I;I@3")), "877787778777");
-        Check.due("left, a clue within a kind", leftOfAll(grid("A=B")), "ffffffffffff");
-        Check.due("left, a pair of places for two", leftOfAll(grid("xA0;xA1;xB0;xB1")), "ccffffffffff");
-        Check.due("left, with a contradiction", leftOfAll(grid("A@0;B@0")), "000000000000");
-        Check.due("left, an item without places", leftOfAll(grid("xK0;xK1;xK2;xK3")), "000000000000");
-        Check.due("left, a place without items", leftOfAll(grid("xE3;xF3;xG3;xH3")), "000000000000");
+        Check.due("left of all", Told.left(grid("xA0;xE1;xL3")), "efffdffffff7");
+        Check.due("left, with A at 0", Told.left(grid("A@0")), "1eeeffffffff");
+        Check.due("left, with A alone at 0", Told.left(grid("xB0;xC0;xD0")), "1eeeffffffff");
+        Check.due("left, in a row", Told.left(grid("A<E;E<I")), "3fff6fffcfff");
+        Check.due("left, a row of a kind", Told.left(grid("A<B;B<C;C<D")), "1248ffffffff");
+        Check.due("left, far from its place", Told.left(grid("A=E;E=I;I@3")), "877787778777");
+        Check.due("left, a clue within a kind", Told.left(grid("A=B")), "ffffffffffff");
+        Check.due("left, a pair of places for two", Told.left(grid("xA0;xA1;xB0;xB1")), "ccffffffffff");
+        Check.due("left, with a contradiction", Told.left(grid("A@0;B@0")), "000000000000");
+        Check.due("left, an item without places", Told.left(grid("xK0;xK1;xK2;xK3")), "000000000000");
+        Check.due("left, a place without items", Told.left(grid("xE3;xF3;xG3;xH3")), "000000000000");
         wrongItems("left", grid("A@0"), ClueGrid::left);
     }
 
@@ -840,11 +819,11 @@ final class PromisesTest {
 
     private static void promise40TrulyLeft() {
         Check.about("promise 40");
-        Check.due("trulyLeft of all", trulyLeftOfAll(new ClueGrid()), "ffffffffffff");
-        Check.due("trulyLeft, A at 0", trulyLeftOfAll(grid("A@0")), "1eeeffffffff");
-        Check.due("trulyLeft without solutions", trulyLeftOfAll(grid("A=B")), "000000000000");
-        Check.due("trulyLeft, a pair of places for two", trulyLeftOfAll(grid("xA0;xA1;xB0;xB1")), "cc33ffffffff");
-        Check.due("trulyLeft, one solution", trulyLeftOfAll(grid("A<B;B<C;C<D;A=E;B=F;C=G;D=H;A=I;B=J;C=K;D=L")), "124812481248");
+        Check.due("trulyLeft of all", Told.trulyLeft(new ClueGrid()), "ffffffffffff");
+        Check.due("trulyLeft, A at 0", Told.trulyLeft(grid("A@0")), "1eeeffffffff");
+        Check.due("trulyLeft without solutions", Told.trulyLeft(grid("A=B")), "000000000000");
+        Check.due("trulyLeft, a pair of places for two", Told.trulyLeft(grid("xA0;xA1;xB0;xB1")), "cc33ffffffff");
+        Check.due("trulyLeft, one solution", Told.trulyLeft(grid("A<B;B<C;C<D;A=E;B=F;C=G;D=H;A=I;B=J;C=K;D=L")), "124812481248");
         wrongItems("trulyLeft", grid("A@0"), ClueGrid::trulyLeft);
     }
 
@@ -931,62 +910,27 @@ final class PromisesTest {
 
     // ---- the hash
 
-    private static long digestTold(ClueGrid grid, int saved, boolean hasSnapshot, String buffer) {
-        long[] hash = {4217};
-        mix(hash, grid.clues());
-        for (int i = 0; i < grid.clues(); i++) {
-            mix(hash, grid.sortOf(i), grid.itemOf(i, 0), grid.itemOf(i, 1), grid.itemOf(i, 2), grid.placeOf(i));
-            mix(hash, flag(grid.isSpare(i)), grid.barredBy(i));
-        }
-        for (int item = 0; item < 12; item++) {
-            for (int place = 0; place < 4; place++) {
-                mix(hash, flag(grid.isCrossed(item, place)));
-            }
-            mix(hash, grid.left(item), grid.leftByTurns(item), grid.fixedAt(item), grid.trulyLeft(item));
-            mix(hash, grid.placeIn(0, item), grid.placeIn(1, item));
-        }
-        mix(hash, grid.crosses(), grid.crossesByAccount(), grid.made(), grid.rounds(), flag(grid.isContradiction()));
-        mix(hash, grid.fixedItems(), grid.hint(), grid.hintBy(), grid.solutions(), grid.solutionsBySearch());
-        mix(hash, grid.culprit(), flag(grid.isPlain()), saved);
-        mix(hash, Double.doubleToLongBits(grid.fixedShare()), Float.floatToIntBits(grid.meanLeft()));
-        mix(hash, flag(hasSnapshot), buffer.length());
-        for (int i = 0; i < buffer.length(); i++) {
-            mix(hash, buffer.charAt(i));
-        }
-        return hash[0];
-    }
-
-    private static void mix(long[] hash, long... values) {
-        for (long value : values) {
-            hash[0] = 31 * hash[0] + value;
-        }
-    }
-
-    private static long flag(boolean value) {
-        return value ? 1 : 0;
-    }
-
     private static void promise47Digest() {
         Check.about("promise 47");
         ClueGrid grid = new ClueGrid();
-        Check.due("digest()", grid.digest(), digestTold(grid, 0, false, ""));
+        Check.due("digest()", grid.digest(), Told.digest(grid, 0, false, ""));
         grid.at(0, 2);
         grid.same(0, 4);
-        Check.due("digest()", grid.digest(), digestTold(grid, 2, false, ""));
+        Check.due("digest()", grid.digest(), Told.digest(grid, 2, false, ""));
         write(grid, "L~!z");
         grid.keep();
-        Check.due("digest()", grid.digest(), digestTold(grid, 2, true, "L~!z"));
+        Check.due("digest()", grid.digest(), Told.digest(grid, 2, true, "L~!z"));
         grid.settle();
         grid.rubAllOut();
-        Check.due("digest()", grid.digest(), digestTold(grid, 4, true, "L~!z"));
+        Check.due("digest()", grid.digest(), Told.digest(grid, 4, true, "L~!z"));
         for (int item = 0; item < 12; item++) {
             grid.rubAllOut();
             grid.cross(item, item % 4);
-            Check.due("digest()", grid.digest(), digestTold(grid, 6, true, "L~!z"));
+            Check.due("digest()", grid.digest(), Told.digest(grid, 6, true, "L~!z"));
         }
         for (String text : new String[] {"A=B", "A@0;B@0", "A<B;B<C;C<D", "A|EI;K!2;J~B", "A=E;B=F;C=G;D=H;A=I;B=J;C=K;D=L;A@0"}) {
             ClueGrid other = grid(text);
-            Check.due("digest() of " + text, other.digest(), digestTold(other, 1, false, ""));
+            Check.due("digest() of " + text, other.digest(), Told.digest(other, 1, false, ""));
         }
         everyShare();
     }
@@ -1000,7 +944,7 @@ final class PromisesTest {
                 if (place != item % 4) {
                     grid.cross(item, place);
                     saved = Math.min(6, saved + 1);
-                    Check.due("digest() with " + grid.crosses() + " crosses", grid.digest(), digestTold(grid, saved, false, ""));
+                    Check.due("digest() with " + grid.crosses() + " crosses", grid.digest(), Told.digest(grid, saved, false, ""));
                 }
             }
         }
