@@ -202,6 +202,41 @@ final class SolutionsBoundariesTest {
         Check.due("the solution 24", Told.solution(grid, 24), "------------");
     }
 
+    @Says(SOLUTION)
+    static void promise39OnlyWhereEachClueHolds() {
+        for (int number = 0; number < 12; number++) {
+            ClueGrid grid = withClueAt(number, each -> each.at(0, 3));
+            Check.due("the first solution", Told.solution(grid, 0), "301201230123");
+            Check.due("the last solution", Told.solution(grid, 3455), "321032103210");
+            Check.due("one more", Told.solution(grid, 3456), "------------");
+        }
+    }
+
+    @Says(SOLUTION)
+    static void promise39OnlyWhereNothingIsCrossedOut() {
+        String[] orders = orders();
+        for (int spot = 0; spot < 48; spot++) {
+            int item = spot / 4;
+            int place = spot % 4;
+            ClueGrid grid = new ClueGrid();
+            grid.cross(item, place);
+            String first = "";
+            String last = "";
+            for (String order : orders) {
+                boolean isOpen = order.charAt(item % 4) - '0' != place;
+                first = isOpen && first.isEmpty() ? order : first;
+                last = isOpen ? order : last;
+            }
+            Check.due("the first solution", Told.solution(grid, 0), inKind(item / 4, first, "0123"));
+            Check.due("the last solution", Told.solution(grid, 10367), inKind(item / 4, last, "3210"));
+            Check.due("one more", Told.solution(grid, 10368), "------------");
+        }
+    }
+
+    private static String inKind(int kind, String order, String others) {
+        return (kind == 0 ? order : others) + (kind == 1 ? order : others) + (kind == 2 ? order : others);
+    }
+
     @Says("NONE if there are not so many solutions.")
     static void promise39NotSoMany() {
         String none = "------------";
@@ -270,6 +305,28 @@ final class SolutionsBoundariesTest {
         Check.due("trulyLeft of all of two", Told.trulyLeft(fixedByCrosses(true)), "1248124812cc");
         Check.due("trulyLeft of all of all", Told.trulyLeft(new ClueGrid()), "ffffffffffff");
         Check.due("trulyLeft, two for two places", Told.trulyLeft(Cases.grid("xK0;xK1;xL0;xL1")), "ffffffff33cc");
+    }
+
+    @Says("Tells where an item stands in some solution.")
+    static void promise40AfterEachChange() {
+        ClueGrid grid = new ClueGrid();
+        Check.due("trulyLeft(0) of nothing", grid.trulyLeft(0), 15);
+        grid.at(0, 0);
+        Check.due("trulyLeft(0) after at()", grid.trulyLeft(0), 1);
+        grid.same(0, 1);
+        Check.due("trulyLeft(0) after same()", grid.trulyLeft(0), 0);
+        grid.withdraw(0);
+        grid.withdraw(0);
+        Check.due("trulyLeft(0) after withdraw()", grid.trulyLeft(0), 15);
+        grid.keep();
+        grid.cross(0, 3);
+        Check.due("trulyLeft(0) after cross()", grid.trulyLeft(0), 7);
+        grid.goBack();
+        Check.due("trulyLeft(0) after goBack()", grid.trulyLeft(0), 15);
+        grid.undo();
+        Check.due("trulyLeft(0) after undo()", grid.trulyLeft(0), 7);
+        grid.rubAllOut();
+        Check.due("trulyLeft(0) after rubAllOut()", grid.trulyLeft(0), 15);
     }
 
     @Says(NO_ITEM)
@@ -567,6 +624,32 @@ final class SolutionsBoundariesTest {
         grid.at(0, 3);
         Check.due("fixedShare() with a contradiction", grid.fixedShare(), 0.0);
         told(grid, 6, false, "");
+    }
+
+    /** What a look has found out must not be told any more after a call that changes something. */
+    @Says(LOOKS)
+    static void promise47NoLookIsToldLater() {
+        Cases.Call[] changes = {grid -> grid.same(0, 4), grid -> grid.apart(3, 9), grid -> grid.leftOf(1, 2), grid -> grid.nextTo(8, 11),
+            grid -> grid.at(4, 2), grid -> grid.notAt(7, 0), grid -> grid.either(1, 6, 10), grid -> grid.withdraw(1),
+            grid -> grid.cross(11, 0), grid -> grid.rubOut(0, 0), ClueGrid::rubAllOut, ClueGrid::settle, ClueGrid::take,
+            ClueGrid::goBack, ClueGrid::undo};
+        for (int i = 0; i < changes.length; i++) {
+            ClueGrid grid = Cases.made(SolutionsBoundariesTest::someClues);
+            ClueGrid twin = Cases.made(SolutionsBoundariesTest::someClues);
+            grid.digest();
+            Check.due("the change " + i, changes[i].on(grid), changes[i].on(twin));
+            Check.due("digest() after looks and the change " + i, grid.digest(), twin.digest());
+            Check.due("trulyLeft of all after it", Told.trulyLeft(grid), Told.trulyLeft(twin));
+        }
+    }
+
+    private static void someClues(ClueGrid grid) {
+        grid.cross(0, 0);
+        grid.keep();
+        grid.leftOf(5, 10);
+        grid.apart(4, 5);
+        grid.notAt(3, 3);
+        Cases.write(grid, "C@1;xH0");
     }
 
     @Says(LOOKS)
