@@ -163,8 +163,13 @@ public final class ClueGrid {
         }
         save();
         int done = 0;
-        for (int start = 0; start < text.length && doPart(start); start += text.partLength(start) + 1) {
-            done++;
+        for (int i = 0; i < text.length; i++) {
+            if (text.beginsPart(i)) {
+                if (!doPart(i)) {
+                    break;
+                }
+                done++;
+            }
         }
         text.length = 0;
         return done;
@@ -999,7 +1004,11 @@ public final class ClueGrid {
             return length - start == partLength(start) && errorIndex() == length;
         }
 
-        int partLength(int start) {
+        boolean beginsPart(int index) {
+            return index <= 0 || code[index - 1] == BETWEEN;
+        }
+
+        private int partLength(int start) {
             return start + 1 < length && code[start + 1] == '|' ? 4 : 3;
         }
 

@@ -1,10 +1,17 @@
+import java.io.IOException;
 import java.lang.reflect.Constructor;
 import java.lang.reflect.Field;
 import java.lang.reflect.Method;
 import java.lang.reflect.Modifier;
+import java.nio.file.Files;
+import java.nio.file.Path;
+import java.util.List;
 import java.util.TreeSet;
 
-/** The class has the document's face, and no other member that can be seen from outside. */
+/**
+ * The class has the document's face, and no other member that can be seen from
+ * outside. The first argument names the class's source.
+ */
 final class FaceTest {
     private static final String BOUNDS = " IndexOutOfBoundsException";
     private static final String ARGUMENT = " IllegalArgumentException";
@@ -58,15 +65,83 @@ final class FaceTest {
         "long digest()",
     };
 
-    public static void main(String[] args) {
+    public static void main(String[] args) throws IOException {
         Check.about("the face");
         Class<?> type = ClueGrid.class;
         Check.due("modifiers of the class", type.getModifiers(), Modifier.PUBLIC | Modifier.FINAL);
         methods(type);
         constructors(type);
         fields(type);
+        numbers(type);
         classesInside(type);
+        if (Document.isThere()) {
+            String path = args.length > 0 ? args[0] : "src/main/java/ClueGrid.java";
+            String source = Files.readString(Path.of(path)).replaceAll("\\s+", " ");
+            face(Document.read(), source);
+            groups(Document.read(), source);
+        } else {
+            System.out.println("FaceTest: there is no " + Document.path() + ", so the source is not held against it");
+        }
         Check.end("FaceTest");
+    }
+
+    /** The document's lines, in their order, with the names of the parameters; each promise tells its own once more. */
+    private static void face(Document document, String source) {
+        List<String> lines = document.face();
+        Check.due("the constant of DOC.md", lines.remove(0), "static final int NONE = -1");
+        Check.due("lines of the face", lines.size(), Document.PROMISES);
+        int at = -1;
+        for (int i = 0; i < lines.size(); i++) {
+            int next = source.indexOf(" public " + lines.get(i) + " {");
+            Check.due("the source has, behind the one before: " + lines.get(i), next > at, true);
+            Check.due("the promise " + (i + 1), document.signature(i + 1), lines.get(i));
+            at = next;
+        }
+        for (int i = 0; i < FACE.length; i++) {
+            Check.due("the line of DOC.md", withoutNames(lines.get(i + 1)), FACE[i]);
+        }
+    }
+
+    /** As told() tells a method. */
+    private static String withoutNames(String line) {
+        int end = line.indexOf(')') + 1;
+        String call = line.substring(0, end).replaceAll(" \\w+([,)])", "$1").replace(", ", ",");
+        return call + line.substring(end).replace(" throws", "").replace(",", "");
+    }
+
+    /** "Ahead of the calls .. the interface says: ---- clues." stands as a comment ahead of the first of the calls. */
+    private static void groups(Document document, String source) {
+        int count = 0;
+        for (String line : document.section(Document.TERMS).split("\n")) {
+            if (line.startsWith("Ahead of the calls ")) {
+                String[] calls = line.substring("Ahead of the calls ".length(), line.indexOf(" the interface says: ")).split(", ");
+                String says = line.substring(line.indexOf("---- "), line.length() - 1);
+                int at = source.indexOf("// " + says + " public ");
+                Check.due("the source says ahead of " + calls[0] + ": " + says, at >= 0, true);
+                int end = source.indexOf("// ---- ", at + 1);
+                for (String call : calls) {
+                    int next = source.indexOf(" " + call + "(", Math.max(at, 0));
+                    Check.due("then comes " + call, next > at && next < end, true);
+                    at = next;
+                    count++;
+                }
+            }
+        }
+        Check.due("calls that are ahead of or behind a heading", count, Document.PROMISES - 1);
+    }
+
+    /** All numbers are whole numbers, but for two shares. */
+    private static void numbers(Class<?> type) {
+        for (Method method : type.getMethods()) {
+            if (method.getDeclaringClass() == type) {
+                String returned = method.getReturnType().getName();
+                boolean isShare = method.getName().equals("fixedShare") || method.getName().equals("meanLeft");
+                Check.due(method.getName() + " answers a share", returned.equals("double") || returned.equals("float"), isShare);
+                for (Class<?> parameter : method.getParameterTypes()) {
+                    Check.due(method.getName() + " is asked by", parameter.getName(), "int");
+                }
+            }
+        }
     }
 
     private static void methods(Class<?> type) {

@@ -1,10 +1,18 @@
+import java.io.DataInputStream;
 import java.io.IOException;
+import java.lang.reflect.Field;
+import java.lang.reflect.Method;
+import java.lang.reflect.Modifier;
 import java.nio.file.Files;
 import java.nio.file.Path;
+import java.util.List;
 import java.util.regex.Matcher;
 import java.util.regex.Pattern;
 
-/** Looks through the class's source, named by the first argument, for what LANGUAGE.md leaves out. */
+/**
+ * Looks through the class's source, named by the first argument, and through the
+ * compiled classes for what LANGUAGE.md leaves out.
+ */
 final class LanguageTest {
     private static final String[] BARRED = {
         "^\\s*package\\b", "^\\s*import\\b", "->", "::", "\\bassert\\b", "\\bsynchronized\\b", "\\bfinally\\b", "\\btry\\b",
@@ -15,6 +23,13 @@ final class LanguageTest {
     private static final Pattern THROWN = Pattern.compile("throw\\s+([^;]*);");
     private static final Pattern MADE = Pattern.compile("\\bnew\\s+(\\w+)");
     private static final int MOST_LINES = 60;
+    private static final int MOST_PARAMETERS = 7;
+    private static final int MOST_FIELDS = 20;
+    /** What the class may call that is not its own: a part of rule 4, and the three exceptions of the face. */
+    private static final List<String> LIBRARY = List.of("java/lang/Object.<init>()V", "java/lang/String.indexOf(I)I",
+        "java/lang/Integer.bitCount(I)I", "java/lang/Long.bitCount(J)I", "java/lang/System.arraycopy(Ljava/lang/Object;ILjava/lang/Object;II)V",
+        "java/lang/IndexOutOfBoundsException.<init>(Ljava/lang/String;)V", "java/lang/IllegalArgumentException.<init>(Ljava/lang/String;)V",
+        "java/lang/IllegalStateException.<init>(Ljava/lang/String;)V");
 
     public static void main(String[] args) throws IOException {
         Check.about("LANGUAGE.md");
@@ -30,7 +45,64 @@ final class LanguageTest {
         }
         exceptions(code);
         lengths(code);
+        members(ClueGrid.class);
+        library(ClueGrid.class);
+        for (Class<?> inside : ClueGrid.class.getDeclaredClasses()) {
+            members(inside);
+            library(inside);
+        }
         Check.end("LanguageTest");
+    }
+
+    private static void members(Class<?> type) {
+        int fields = 0;
+        for (Field field : type.getDeclaredFields()) {
+            boolean isStatic = Modifier.isStatic(field.getModifiers());
+            Check.due(type.getName() + "." + field.getName() + " is static, but not final", isStatic && !Modifier.isFinal(field.getModifiers()), false);
+            fields += isStatic ? 0 : 1;
+        }
+        Check.due(type.getName() + " has too many fields", fields > MOST_FIELDS, false);
+        for (Method method : type.getDeclaredMethods()) {
+            String name = type.getName() + "." + method.getName();
+            Check.due(name + " has too many parameters", method.getParameterCount() > MOST_PARAMETERS, false);
+            Check.due(name + " was made by the compiler", method.isSynthetic(), false);
+        }
+    }
+
+    // ---- the library, by the constants of the compiled class
+
+    private static void library(Class<?> type) throws IOException {
+        try (DataInputStream in = new DataInputStream(type.getResourceAsStream(type.getName() + ".class"))) {
+            in.skipBytes(8);
+            String[] texts = new String[in.readUnsignedShort()];
+            int[][] pairs = new int[texts.length][];
+            boolean[] isCall = new boolean[texts.length];
+            for (int i = 1; i < texts.length; i++) {
+                int tag = in.readUnsignedByte();
+                switch (tag) {
+                    case 1: texts[i] = in.readUTF(); break;
+                    case 3: case 4: in.skipBytes(4); break;
+                    case 5: case 6: in.skipBytes(8); i++; break;
+                    case 7: pairs[i] = new int[] {in.readUnsignedShort()}; break;
+                    case 8: in.skipBytes(2); break;
+                    case 9: case 10: case 11: case 12:
+                        pairs[i] = new int[] {in.readUnsignedShort(), in.readUnsignedShort()};
+                        isCall[i] = tag == 10 || tag == 11;
+                        break;
+                    default: Check.fail(type.getName() + " has a constant of the kind " + tag + ", as for a lambda or joined texts"); return;
+                }
+            }
+            for (int i = 1; i < texts.length; i++) {
+                if (isCall[i]) {
+                    calls(type, texts[pairs[pairs[i][0]][0]], texts[pairs[pairs[i][1]][0]] + texts[pairs[pairs[i][1]][1]]);
+                }
+            }
+        }
+    }
+
+    private static void calls(Class<?> type, String owner, String method) {
+        boolean isOwn = owner.equals("ClueGrid") || owner.startsWith("ClueGrid$");
+        Check.due(type.getName() + " calls " + owner + "." + method, isOwn || LIBRARY.contains(owner + "." + method), true);
     }
 
     private static void signs(String source) {

@@ -1,132 +1,134 @@
 import java.io.IOException;
 import java.lang.reflect.Method;
-import java.nio.file.Files;
-import java.nio.file.Path;
 import java.util.ArrayList;
 import java.util.List;
 import java.util.Map;
 import java.util.TreeMap;
 
 /**
- * Holds the tests of the boundaries against DOC.md, which stands in the directory
- * that -Dshared names: the words that a test quotes stand under its promise or
- * under the terms, and each sentence of the document is quoted by some test.
+ * Holds the tests against DOC.md, from its first line to its last: the words that
+ * a test quotes stand under its promise or under the terms, and each word of the
+ * document is quoted by a test, is in the face, which FaceTest reads, or stands in
+ * a sentence that is named here, as no test can hold the class to it.
  */
 final class SentencesTest {
     private static final Class<?>[] TESTS = {CluesBoundariesTest.class, CrossesBoundariesTest.class, TextsBoundariesTest.class,
-        StatesBoundariesTest.class, LooksBoundariesTest.class, PropagationBoundariesTest.class, SolutionsBoundariesTest.class};
-    private static final int PROMISES = 47;
-    /** Sentences that name no boundary of their own. */
-    private static final String[] NO_BOUNDARY = {"All numbers are whole numbers, but for two shares."};
+        StatesBoundariesTest.class, LooksBoundariesTest.class, PropagationBoundariesTest.class, SolutionsBoundariesTest.class,
+        PurposesTest.class};
+    private static final String[] HEADINGS = {"Items, places, arrangements", "Crosses, solutions"};
+    /** Sentences that no test quotes, and why. */
+    private static final String[] FREE = {
+        // tells in one sentence what all the others tell
+        "Logic grid of four places and twelve items with clues that propagate: items of three kinds, each of which stands at one place, "
+            + "clues of seven sorts, crosses that are made by hand, places that are ruled out round by round until nothing changes, "
+            + "told in two ways, contradictions, solutions told by trying all arrangements and by search, the places that an item has in "
+            + "all solutions, hints, clues that can be spared and clues that are to blame, what is settled of the grid, crosses in accounts "
+            + "told in two ways, clues and crosses as texts with errors by place, a snapshot and undo.",
+        // FaceTest looks at the types of all answers and parameters
+        "All numbers are whole numbers, but for two shares.",
+        // what is free, and what is not promised, is right as it is
+        "How the state is held inside the object is free, as are the speed of each call, the text of toString and the behaviour of equals and hashCode.",
+        "Use of one object from several threads at once is not promised to be safe.",
+        "Nothing is promised beyond the answers and state changes described above, and nothing about an object after its 512th call.",
+    };
 
-    private static final Map<Integer, String> SECTION = new TreeMap<>();
     private static final Map<Integer, List<String>> QUOTED = new TreeMap<>();
 
     public static void main(String[] args) throws IOException {
         Check.about("the sentences of DOC.md");
-        Path doc = Path.of(System.getProperty("shared", "../shared"), "DOC.md");
-        if (!Files.isReadable(doc)) {
-            System.out.println("SentencesTest: there is no " + doc + ", so nothing is compared");
+        if (!Document.isThere()) {
+            System.out.println("SentencesTest: there is no " + Document.path() + ", so nothing is compared");
             return;
         }
-        readSections(Files.readString(doc).replace("`", ""));
+        Document document = Document.read();
+        for (int section = Document.TERMS; section <= Document.NOT_PROMISED; section++) {
+            QUOTED.put(section, new ArrayList<>());
+        }
         for (Class<?> tests : TESTS) {
             for (Method test : Cases.testsOf(tests)) {
-                quotes(test);
+                quotes(document, test);
             }
         }
-        for (int promise = 1; promise <= PROMISES; promise++) {
-            linesOf(promise);
+        for (int section = Document.TERMS; section <= Document.NOT_PROMISED; section++) {
+            eachWord(document, section);
         }
-        terms();
+        for (String free : FREE) {
+            boolean isThere = document.section(Document.TERMS).contains(free) || document.section(Document.NOT_PROMISED).contains(free);
+            Check.due("DOC.md says: " + free, isThere, true);
+        }
         Check.end("SentencesTest");
     }
 
-    /** What stands ahead of the first promise has the number 0. */
-    private static void readSections(String doc) {
-        for (int promise = 0; promise <= PROMISES; promise++) {
-            int begin = promise == 0 ? 0 : doc.indexOf("## Promise " + promise + ":");
-            int end = doc.indexOf("\n## " + (promise == PROMISES ? "Not promised" : "Promise " + (promise + 1) + ":"));
-            Check.due("the section " + promise + " is there", begin >= 0 && end > begin, true);
-            SECTION.put(promise, begin >= 0 && end > begin ? doc.substring(begin, end) : "");
-            QUOTED.put(promise, new ArrayList<>());
-        }
-    }
-
-    private static void quotes(Method test) {
+    private static void quotes(Document document, Method test) {
         int promise = Cases.promiseOf(test);
         Says says = test.getAnnotation(Says.class);
-        if (says == null || !SECTION.containsKey(promise) || promise == 0) {
+        if (says == null || promise < 1 || promise > Document.PROMISES) {
             Check.fail(test.getName() + " quotes nothing, or has no promise's number");
             return;
         }
         for (String words : says.value()) {
             String plain = words.replace("`", "");
-            boolean isThere = SECTION.get(promise).contains(plain) || SECTION.get(0).contains(plain);
-            Check.due(test.getName() + " quotes what stands there: " + plain, isThere, true);
+            boolean isOfThePromise = document.section(promise).contains(plain);
+            boolean isOfTheTerms = document.section(Document.TERMS).contains(plain);
+            Check.due(test.getName() + " quotes what stands there: " + plain, isOfThePromise || isOfTheTerms, true);
             QUOTED.get(promise).add(plain);
+            QUOTED.get(Document.TERMS).add(plain);
         }
     }
 
-    /** Each parameter, answer, exception and mark of a promise has a test of that promise. */
-    private static void linesOf(int promise) {
-        Check.due("a test of the promise " + promise, QUOTED.get(promise).isEmpty(), false);
-        for (String line : SECTION.get(promise).split("\n")) {
-            if (line.startsWith("- ") || line.startsWith("Returns ") || line.startsWith("Throws ")) {
-                Check.due("a test of the promise " + promise + " quotes of: " + line, isQuoted(promise, line), true);
+    private static void eachWord(Document document, int section) {
+        String text = document.section(section);
+        boolean[] isHeld = new boolean[text.length()];
+        for (String words : QUOTED.get(section)) {
+            hold(text, words, isHeld);
+        }
+        for (String free : FREE) {
+            hold(text, free, isHeld);
+        }
+        if (section >= 1 && section <= Document.PROMISES) {
+            hold(text, document.signature(section) + ": ", isHeld);
+        }
+        int begin = 0;
+        boolean isInFace = false;
+        for (String line : text.split("\n", -1)) {
+            boolean isFence = line.equals("java") || isInFace && line.equals("}");
+            isInFace = line.equals("java") || isInFace && !isFence;
+            if (!isFence && !isInFace && !isHeading(line)) {
+                eachWordOf(line, section, isHeld, begin);
             }
-            if (line.contains("Undoable")) {
-                Check.due("a test of the promise " + promise + " quotes the mark", quotesMark(promise), true);
-            }
+            begin += line.length() + 1;
         }
     }
 
-    private static boolean isQuoted(int promise, String line) {
-        for (String words : QUOTED.get(promise)) {
-            if (line.contains(words)) {
+    /** What stands ahead of the calls is looked at by FaceTest. */
+    private static boolean isHeading(String line) {
+        for (String heading : HEADINGS) {
+            if (line.equals(heading)) {
                 return true;
             }
         }
-        return false;
+        return line.startsWith("#") || line.startsWith("Ahead of the calls ");
     }
 
-    private static boolean quotesMark(int promise) {
-        for (String words : QUOTED.get(promise)) {
-            if (words.contains("Undoable")) {
-                return true;
-            }
-        }
-        return false;
-    }
-
-    /** The terms stand between their heading and the constants. */
-    private static void terms() {
-        String ahead = SECTION.get(0);
-        int begin = ahead.indexOf("## Terms");
-        int end = ahead.indexOf("The constants:");
-        Check.due("the terms are there", begin >= 0 && end > begin, true);
-        for (String line : begin >= 0 && end > begin ? ahead.substring(begin, end).split("\n") : new String[0]) {
-            for (String sentence : line.split("(?<=\\.)\\s+")) {
-                if (sentence.endsWith(".") || sentence.endsWith(";") || sentence.endsWith(")")) {
-                    Check.due("some test quotes of: " + sentence, isQuotedByAny(sentence), true);
-                }
+    private static void hold(String text, String words, boolean[] isHeld) {
+        for (int at = text.indexOf(words); at >= 0; at = text.indexOf(words, at + 1)) {
+            for (int i = 0; i < words.length(); i++) {
+                isHeld[at + i] = true;
             }
         }
     }
 
-    private static boolean isQuotedByAny(String sentence) {
-        for (String none : NO_BOUNDARY) {
-            if (sentence.equals(none)) {
-                return true;
+    private static void eachWordOf(String line, int section, boolean[] isHeld, int begin) {
+        StringBuilder missing = new StringBuilder();
+        for (int i = 0; i < line.length(); i++) {
+            boolean isMissing = !isHeld[begin + i] && (Character.isLetterOrDigit(line.charAt(i)) || missing.length() > 0);
+            if (isMissing) {
+                missing.append(line.charAt(i));
+            } else if (missing.length() > 0) {
+                break;
             }
         }
-        for (int promise : QUOTED.keySet()) {
-            for (String words : QUOTED.get(promise)) {
-                if (sentence.contains(words) || words.contains(sentence)) {
-                    return true;
-                }
-            }
-        }
-        return false;
+        String where = section == Document.TERMS ? "the terms" : "the section " + section;
+        Check.due("what no test quotes of " + where, missing.toString(), "");
     }
 }
